@@ -1,0 +1,68 @@
+import java.lang.reflect.Constructor;
+import java.lang.reflect.Field;
+import java.lang.reflect.Method;
+import java.lang.reflect.Modifier;
+import java.util.Arrays;
+import java.util.Set;
+import java.util.TreeSet;
+
+/** The public face: all members that the document has, and no other one that can be seen. */
+public final class FaceTest {
+    private static final String[] FACE = {
+        "boolean integer(long)", "boolean bytes(long,int)", "boolean more(long,int)",
+        "boolean list(int)", "boolean map(int)", "boolean constructor(int,int)",
+        "boolean copy(int)", "boolean drop()", "int open()", "int write()", "void clear()",
+        "boolean give(long,int)", "boolean cut(int)", "void turn()", "int read()",
+        "int node(int,int,int)", "long value(int,int)", "int byteAt(int,int,int)",
+        "int compare(int,int)", "int output(int)", "int look(int)",
+    };
+
+    public static void main(String[] args) {
+        Check.due("NONE", DataTree.NONE, -1);
+        Check.yes("public and final", DataTree.class.getModifiers() == (Modifier.PUBLIC | Modifier.FINAL));
+        methods();
+        fieldsAndConstructors();
+        nestedClasses();
+        Check.end();
+    }
+
+    private static void methods() {
+        Set<String> seen = new TreeSet<>();
+        Set<String> publicNames = new TreeSet<>();
+        Set<String> privateNames = new TreeSet<>();
+        for (Method m : DataTree.class.getDeclaredMethods()) {
+            if (Modifier.isPrivate(m.getModifiers())) {
+                privateNames.add(m.getName());
+                continue;
+            }
+            publicNames.add(m.getName());
+            Check.yes(m + " is public", m.getModifiers() == Modifier.PUBLIC);
+            String parameters = Arrays.toString(m.getParameterTypes()).replaceAll("[\\[\\] ]", "");
+            seen.add(m.getReturnType() + " " + m.getName() + "(" + parameters + ")");
+        }
+        Check.yes("methods " + seen, seen.equals(new TreeSet<>(Arrays.asList(FACE))));
+        privateNames.retainAll(publicNames);
+        Check.yes("private methods with public names " + privateNames, privateNames.isEmpty());
+    }
+
+    private static void fieldsAndConstructors() {
+        for (Field f : DataTree.class.getDeclaredFields()) {
+            boolean hidden = Modifier.isPrivate(f.getModifiers());
+            Check.yes(f + " is private", hidden || f.getName().equals("NONE"));
+            boolean state = Modifier.isStatic(f.getModifiers()) && !Modifier.isFinal(f.getModifiers());
+            Check.no(f + " is static state", state);
+        }
+        Constructor<?>[] all = DataTree.class.getDeclaredConstructors();
+        Check.due("constructors", all.length, 1);
+        Check.due("its parameters", all[0].getParameterCount(), 0);
+        Check.yes("it is public", Modifier.isPublic(all[0].getModifiers()));
+    }
+
+    private static void nestedClasses() {
+        for (Class<?> c : DataTree.class.getDeclaredClasses()) {
+            int m = c.getModifiers();
+            Check.yes(c + " is static", Modifier.isStatic(m));
+            Check.no(c + " is public or protected", Modifier.isPublic(m) || Modifier.isProtected(m));
+        }
+    }
+}
