@@ -361,7 +361,7 @@ public final class DataTree {
 
     /** The byte of v that has j lower ones below it. */
     private static int byteOf(long v, int j) {
-        return (int) (v >>> 8 * j) & 255;
+        return (int) (v >>> (8 * j)) & 255;
     }
 
     /** The lowest five bits of the only head that a number may have; it is taken without a sign. */
@@ -646,7 +646,7 @@ public final class DataTree {
             int low = b & 31;
             kind = b >> 5;
             at++;
-            if (low > 27 || kind == 3 || kind == 7 || mustBeList && kind != LIST) {
+            if (low > 27 || kind == 3 || kind == 7 || (mustBeList && kind != LIST)) {
                 return FAULT_HEAD;
             }
             number = low;
@@ -669,7 +669,7 @@ public final class DataTree {
         private void takeNumber(int n) {
             number = 0;
             for (int j = 0; j < n; j++) {
-                number = number << 8 | row.get(at);
+                number = (number << 8) | row.get(at);
                 at++;
             }
         }
@@ -683,7 +683,7 @@ public final class DataTree {
                 case BYTES:
                     return number >= 0 && number <= MAX_BYTES;
                 case CONSTRUCTOR:
-                    return number >= 121 && number <= 127 || number >= 1280 && number <= 1400;
+                    return (number >= 121 && number <= 127) || (number >= 1280 && number <= 1400);
                 default:
                     return true;
             }

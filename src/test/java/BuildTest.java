@@ -158,6 +158,12 @@ public final class BuildTest {
         Check.no("no room for a 17th, an empty list", x.list(0));
         Check.no("nor an empty map", x.map(0));
         Check.no("nor a constructor", x.constructor(0, 0));
+        x.drop();
+        Check.yes("room for a 16th, an empty list", x.list(0));
+        x.drop();
+        Check.yes("an empty map", x.map(0));
+        x.drop();
+        Check.yes("a constructor", x.constructor(0, 0));
         Check.yes("list of all 16", x.list(16));
         Check.due("one item", x.look(0), 1);
         for (int n = 2; n <= 11; n++) {
@@ -318,11 +324,13 @@ public final class BuildTest {
         Check.due("open a list of 16", x.open(), 16);
         Check.due("the last one is the top", x.value(0, 0), 16);
         Check.due("the first one is the deepest", x.value(15, 0), 1);
+        x.list(15);
+        Check.due("open a list of 15 on one", x.open(), 15);
+        Check.due("16 items", x.look(0), 16);
         x.list(16);
-        x.integer(1);
-        x.copy(1);
-        Check.due("no room for 18", x.open(), -1);
-        Check.looks("nothing has changed", x, 3, 35, 0, 0, 0, 0, -1, 17);
+        x.copy(0);
+        Check.due("no room for 17", x.open(), -1);
+        Check.looks("nothing has changed", x, 2, 34, 0, 0, 0, 0, -1, 17);
     }
 
     private static void openKeepsWhatIsBelow() {
