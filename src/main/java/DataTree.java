@@ -185,7 +185,7 @@ public final class DataTree {
             return NONE;
         }
         Reading reading = new Reading(in, at, nodes, stackEnd());
-        int found = reading.takeNode(1);
+        int found = reading.takeData();
         if (found != NO_FAULT) {
             fault = found;
             faultPlace = reading.place;
@@ -597,8 +597,13 @@ public final class DataTree {
             this.end = first;
         }
 
-        /** Reads a node with all that is within it; the outermost one has the level 1. */
-        int takeNode(int level) {
+        /** Reads data: the first fault, or NO_FAULT. */
+        int takeData() {
+            return takeNode(1);
+        }
+
+        /** Reads a node with all that is within it; its level is guarded with its head. */
+        private int takeNode(int level) {
             int found = takeNodeHead(level);
             if (found != NO_FAULT) {
                 return found;

@@ -19,8 +19,8 @@ public final class AskTest {
     }
 
     /** Item 1: an integer. Item 0: constructor 3 of a map of bytes to a list, and an empty list. */
-    private static DataTree two() {
-        DataTree x = new DataTree();
+    private static Counted two() {
+        Counted x = new Counted();
         x.integer(-77);
         x.bytes(0xf1f2f3, 3);
         x.integer(4);
@@ -33,7 +33,7 @@ public final class AskTest {
     }
 
     private static void node() {
-        DataTree x = two();
+        Counted x = two();
         Check.nodes("constructor", x, 0, 0, 6, 2, 3, 7, 4, -1);
         Check.nodes("map", x, 0, 1, 5, 1, -1, 5, 3, 0);
         Check.nodes("bytes", x, 0, 2, 2, 3, -1, 1, 1, 1);
@@ -50,7 +50,7 @@ public final class AskTest {
     }
 
     private static void nodeThrows() {
-        DataTree x = two();
+        Counted x = two();
         for (int n : WRONG) {
             Check.due("node of item " + n, Check.thrownByNode(x, n, 0, 0), Check.INDEX);
             Check.due("node " + n, Check.thrownByNode(x, 0, n, 0), Check.INDEX);
@@ -61,12 +61,12 @@ public final class AskTest {
         Check.due("node 7 of 7, any other w", Check.thrownByNode(x, 0, 7, -1), Check.INDEX);
         Check.due("node 1 of 1", Check.thrownByNode(x, 1, 1, 0), Check.INDEX);
         Check.due("node 6 of 7", Check.thrownByNode(x, 0, 6, 0), 0);
-        Check.due("none", Check.thrownByNode(new DataTree(), 0, 0, 0), Check.INDEX);
+        Check.due("none", Check.thrownByNode(new Counted(), 0, 0, 0), Check.INDEX);
         Check.looks("nothing has changed", x, 2, 8, 0, 0, 0, 0, -1, 12);
     }
 
     private static void value() {
-        DataTree x = two();
+        Counted x = two();
         Check.due("value of the item below", x.value(1, 0), -77);
         Check.due("value within", x.value(0, 4), 4);
         for (int k : new int[] {0, 1, 2, 3, 5, 6}) {
@@ -79,11 +79,11 @@ public final class AskTest {
         Check.due("item 2 of 2", Check.thrownByValue(x, 2, 0), Check.INDEX);
         Check.due("node 7 of 7", Check.thrownByValue(x, 0, 7), Check.INDEX);
         Check.due("node 1 of 1", Check.thrownByValue(x, 1, 1), Check.INDEX);
-        Check.due("none", Check.thrownByValue(new DataTree(), 0, 0), Check.INDEX);
+        Check.due("none", Check.thrownByValue(new Counted(), 0, 0), Check.INDEX);
     }
 
     private static void byteAt() {
-        DataTree x = two();
+        Counted x = two();
         Check.due("byte 0", x.byteAt(0, 2, 0), 0xf1);
         Check.due("byte 2", x.byteAt(0, 2, 2), 0xf3);
         Check.due("byte 3", x.byteAt(0, 2, 3), -1);
@@ -96,13 +96,13 @@ public final class AskTest {
             Check.due("a byte of node " + k, x.byteAt(0, k, 0), -1);
         }
         Check.due("of item 2 of 2", x.byteAt(2, 0, 0), -1);
-        Check.due("of none", new DataTree().byteAt(0, 0, 0), -1);
+        Check.due("of none", new Counted().byteAt(0, 0, 0), -1);
         x.bytes(0, 0);
         Check.due("of no bytes", x.byteAt(0, 0, 0), -1);
     }
 
     private static void compare() {
-        DataTree x = new DataTree();
+        Counted x = new Counted();
         x.integer(5);
         Check.due("with itself", x.compare(0, 0), 0);
         x.integer(-1);
@@ -135,7 +135,7 @@ public final class AskTest {
     }
 
     private static void sameButForTheLast() {
-        DataTree x = new DataTree();
+        Counted x = new Counted();
         for (int last = 1; last <= 3; last++) {
             x.bytes(-1, 8);
             x.more(-1, 8);
@@ -153,7 +153,7 @@ public final class AskTest {
     }
 
     private static void compareLongBytes() {
-        DataTree x = new DataTree();
+        Counted x = new Counted();
         long[] ends = {0x200, 0x2ff, 0x300, 0x200};
         for (long end : ends) {
             x.bytes(0, 8);
@@ -171,7 +171,7 @@ public final class AskTest {
 
     /** Nothing of how nodes came to be may count: only the last one differs. */
     private static void compareBuiltWithRead() {
-        DataTree x = new DataTree();
+        Counted x = new Counted();
         for (int last = 0; last < 3; last++) {
             x.integer(5);
             x.integer(-300);
@@ -190,7 +190,7 @@ public final class AskTest {
     }
 
     private static void compareThrows() {
-        DataTree x = two();
+        Counted x = two();
         for (int n : WRONG) {
             Check.due("compare item " + n, Check.thrownByCompare(x, n, 0), Check.INDEX);
             Check.due("compare with item " + n, Check.thrownByCompare(x, 0, n), Check.INDEX);
@@ -199,14 +199,14 @@ public final class AskTest {
         Check.due("item 2 of 2", Check.thrownByCompare(x, 2, 1), Check.INDEX);
         Check.due("with item 2 of 2", Check.thrownByCompare(x, 1, 2), Check.INDEX);
         Check.due("items 1 and 0", Check.thrownByCompare(x, 1, 0), 0);
-        Check.due("none", Check.thrownByCompare(new DataTree(), 0, 0), Check.INDEX);
+        Check.due("none", Check.thrownByCompare(new Counted(), 0, 0), Check.INDEX);
     }
 
     /** All pairs of 16 items, against the bytes that they have in the output. */
     private static void compareEveryPair() {
-        DataTree x = new DataTree();
+        Counted x = new Counted();
         sixteen(x);
-        DataTree y = new DataTree();
+        Counted y = new Counted();
         sixteen(y);
         int[][] written = new int[16][];
         for (int i = 0; i < 16; i++) {
@@ -225,7 +225,7 @@ public final class AskTest {
         }
     }
 
-    private static void sixteen(DataTree x) {
+    private static void sixteen(Counted x) {
         long[] integers = {0, 23, 24, 256, -1, -300, Long.MIN_VALUE};
         for (long v : integers) {
             x.integer(v);
@@ -243,7 +243,7 @@ public final class AskTest {
     }
 
     private static void look() {
-        DataTree x = two();
+        Counted x = two();
         Check.looks("two", x, 2, 8, 0, 0, 0, 0, -1, 12);
         x.write();
         x.write();

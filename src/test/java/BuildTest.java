@@ -23,7 +23,7 @@ public final class BuildTest {
     }
 
     private static void newObject() {
-        DataTree x = new DataTree();
+        Counted x = new Counted();
         Check.looks("new", x, 0, 0, 0, 0, 0, 0, -1, -1);
         Check.due("new: output(0)", x.output(0), -1);
         Check.due("new: read()", x.read(), -1);
@@ -31,13 +31,13 @@ public final class BuildTest {
         x.clear();
         x.turn();
         Check.looks("new, cleared and turned", x, 0, 0, 0, 0, 0, 0, -1, -1);
-        DataTree y = new DataTree();
+        Counted y = new Counted();
         x.integer(1);
         Check.due("another object stays as it is", y.look(0), 0);
     }
 
     private static void integer() {
-        DataTree x = new DataTree();
+        Counted x = new Counted();
         long[] all = {0, 1, -1, 42, Long.MAX_VALUE, Long.MIN_VALUE};
         for (long v : all) {
             Check.yes("integer(" + v + ")", x.integer(v));
@@ -54,7 +54,7 @@ public final class BuildTest {
     }
 
     private static void bytes() {
-        DataTree x = new DataTree();
+        Counted x = new Counted();
         for (int n : LOW_AND_HIGH) {
             Check.no("bytes of " + n, x.bytes(1, n));
         }
@@ -77,7 +77,7 @@ public final class BuildTest {
     }
 
     private static void more() {
-        DataTree x = new DataTree();
+        Counted x = new Counted();
         Check.no("more without a top", x.more(1, 1));
         x.bytes(0x11, 1);
         x.integer(7);
@@ -96,7 +96,7 @@ public final class BuildTest {
         moreUpTo64(x);
     }
 
-    private static void moreUpTo64(DataTree x) {
+    private static void moreUpTo64(Counted x) {
         for (int n = 0; n < 7; n++) {
             Check.yes("more of 8", x.more(-2 - n, 8));
         }
@@ -124,7 +124,7 @@ public final class BuildTest {
     }
 
     private static void list() {
-        DataTree x = new DataTree();
+        Counted x = new Counted();
         for (int n : LOW_AND_HIGH) {
             Check.no("list of " + n, x.list(n));
         }
@@ -151,7 +151,7 @@ public final class BuildTest {
     }
 
     private static void listLimits() {
-        DataTree x = new DataTree();
+        Counted x = new Counted();
         for (int n = 0; n < 16; n++) {
             x.integer(n);
         }
@@ -178,7 +178,7 @@ public final class BuildTest {
     }
 
     private static void nodeLimit() {
-        DataTree x = new DataTree();
+        Counted x = new Counted();
         Check.listOf(x, 100);
         x.copy(0);
         Check.no("a list of 201 nodes", x.list(2));
@@ -205,7 +205,7 @@ public final class BuildTest {
     }
 
     private static void map() {
-        DataTree x = new DataTree();
+        Counted x = new Counted();
         for (int n = 0; n < 4; n++) {
             x.integer(n);
         }
@@ -231,7 +231,7 @@ public final class BuildTest {
     }
 
     private static void constructor() {
-        DataTree x = new DataTree();
+        Counted x = new Counted();
         x.integer(1);
         for (int n : LOW_AND_HIGH) {
             Check.no("constructor of " + n, x.constructor(0, n));
@@ -256,7 +256,7 @@ public final class BuildTest {
     }
 
     private static void copy() {
-        DataTree x = new DataTree();
+        Counted x = new Counted();
         Check.no("copy of none", x.copy(0));
         x.integer(1);
         x.bytes(0xaabb, 2);
@@ -280,7 +280,7 @@ public final class BuildTest {
     }
 
     private static void drop() {
-        DataTree x = new DataTree();
+        Counted x = new Counted();
         Check.no("drop of none", x.drop());
         x.integer(1);
         x.integer(2);
@@ -295,7 +295,7 @@ public final class BuildTest {
     }
 
     private static void open() {
-        DataTree x = new DataTree();
+        Counted x = new Counted();
         Check.due("open none", x.open(), -1);
         x.integer(1);
         Check.due("open an integer", x.open(), -1);
@@ -334,7 +334,7 @@ public final class BuildTest {
     }
 
     private static void openKeepsWhatIsBelow() {
-        DataTree x = new DataTree();
+        Counted x = new Counted();
         x.bytes(0x31, 1);
         x.integer(1);
         x.bytes(0x32, 1);
@@ -361,7 +361,7 @@ public final class BuildTest {
     }
 
     private static void roomForNodes() {
-        DataTree x = new DataTree();
+        Counted x = new Counted();
         Check.listOf(x, 200);
         for (int n = 0; n < 3; n++) {
             Check.yes("copy of 200 nodes", x.copy(0));

@@ -30,20 +30,20 @@ final class Check {
     }
 
     /** look(0) to look(7). */
-    static void looks(String what, DataTree x, int... want) {
+    static void looks(String what, Counted x, int... want) {
         for (int which = 0; which < want.length; which++) {
             due(what + ": look(" + which + ")", x.look(which), want[which]);
         }
     }
 
     /** node(i, k, 0) to node(i, k, 5). */
-    static void nodes(String what, DataTree x, int i, int k, int... want) {
+    static void nodes(String what, Counted x, int i, int k, int... want) {
         for (int w = 0; w < want.length; w++) {
             due(what + ": node(" + i + ", " + k + ", " + w + ")", x.node(i, k, w), want[w]);
         }
     }
 
-    static void outputIs(String what, DataTree x, int... want) {
+    static void outputIs(String what, Counted x, int... want) {
         due(what + ": bytes of the output", x.look(2), want.length);
         for (int k = 0; k < want.length; k++) {
             due(what + ": output(" + k + ")", x.output(k), want[k]);
@@ -52,27 +52,27 @@ final class Check {
     }
 
     /** Writes the top alone, and asks for its bytes and their number. */
-    static void writtenIs(String what, DataTree x, int... want) {
+    static void writtenIs(String what, Counted x, int... want) {
         x.clear();
         due(what + ": look(7)", x.look(7), want.length);
         due(what + ": write()", x.write(), want.length);
         outputIs(what, x, want);
     }
 
-    static void give(DataTree x, int... bytes) {
+    static void give(Counted x, int... bytes) {
         for (int b : bytes) {
             yes("give", x.give(b, 1));
         }
     }
 
     /** The input is these bytes alone. */
-    static void feed(DataTree x, int... bytes) {
+    static void feed(Counted x, int... bytes) {
         yes("cut(0)", x.cut(0));
         give(x, bytes);
     }
 
     /** A list of zeros that has so many nodes in all comes to the stack; the input is empty then. */
-    static void listOf(DataTree x, int nodes) {
+    static void listOf(Counted x, int nodes) {
         int n = nodes - 1;
         if (n < 24) {
             feed(x, 0x80 + n);
@@ -87,7 +87,7 @@ final class Check {
         yes("cut(0)", x.cut(0));
     }
 
-    static int thrownByNode(DataTree x, int i, int k, int w) {
+    static int thrownByNode(Counted x, int i, int k, int w) {
         try {
             x.node(i, k, w);
             return 0;
@@ -96,7 +96,7 @@ final class Check {
         }
     }
 
-    static int thrownByValue(DataTree x, int i, int k) {
+    static int thrownByValue(Counted x, int i, int k) {
         try {
             x.value(i, k);
             return 0;
@@ -105,7 +105,7 @@ final class Check {
         }
     }
 
-    static int thrownByCompare(DataTree x, int a, int b) {
+    static int thrownByCompare(Counted x, int a, int b) {
         try {
             x.compare(a, b);
             return 0;

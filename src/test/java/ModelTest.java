@@ -1,9 +1,10 @@
 import java.util.Random;
 
-/** All promises: random runs of 512 calls, each answer against the one of Model. */
+/** All promises: random runs of up to 512 calls, each answer against the one of Model. */
 public final class ModelTest {
-    private static final int RUNS = 400;
-    private static final int CALLS = 512;
+    private static final int RUNS = 1500;
+    /** Calls that are kept for the state at the end of a run. */
+    private static final int AT_THE_END = 100;
     private static final long[] EDGES = {
         0, 1, 23, 24, 255, 256, 65535, 65536, 4294967295L, 4294967296L, Long.MAX_VALUE,
         -1, -24, -25, -256, -257, -65536, -65537, -4294967296L, -4294967297L, Long.MIN_VALUE,
@@ -16,7 +17,7 @@ public final class ModelTest {
     };
 
     private final Random random;
-    private final DataTree x = new DataTree();
+    private final Counted x = new Counted();
     private final Model m = new Model();
     /** Runs differ in how much they build, and in how much of it they keep. */
     private final int drops;
@@ -33,10 +34,10 @@ public final class ModelTest {
     public static void main(String[] args) {
         for (int run = 0; run < RUNS; run++) {
             ModelTest test = new ModelTest(run);
-            for (int call = 0; call < CALLS; call++) {
+            for (int call = 0; test.x.left() > AT_THE_END + 20; call++) {
                 test.call("run " + run + ", call " + call + ": ");
             }
-            test.wholeState("run " + run + " at its end: ");
+            test.stateAtTheEnd("run " + run + " at its end: ");
         }
         Check.end();
     }
@@ -93,9 +94,8 @@ public final class ModelTest {
         } else {
             feed(what);
         }
-        for (int which = 0; which < 8; which++) {
-            Check.due(what + "look(" + which + ") then", x.look(which), m.look(which));
-        }
+        int which = random.nextInt(8);
+        Check.due(what + "look(" + which + ") then", x.look(which), m.look(which));
     }
 
     private void build(String what, int r) {
@@ -212,72 +212,108 @@ public final class ModelTest {
 
     /** Bytes that are nearly data: pieces of heads, a wide list, a deep one, or a byte changed. */
     private void feed(String what) {
-        int r = random.nextInt(4);
         if (random.nextInt(3) == 0) {
             int n = random.nextBoolean() ? 0 : random.nextInt(m.in.size() + 1);
             Check.due(what + "cut(" + n + ")", x.cut(n), m.cut(n));
         }
-        if (r == 0) {
-            for (int n = random.nextInt(30); n >= 0; n--) {
-                giveByte(PIECES[random.nextInt(PIECES.length)]);
-            }
-        } else if (r == 1) {
-            int n = random.nextInt(3) == 0 ? 196 + random.nextInt(6) : 24 + random.nextInt(200);
-            giveByte(random.nextBoolean() ? 0x98 : 0xb8);
-            giveByte(n);
-            for (int c = 0; c < n + 3; c++) {
-                giveByte(random.nextInt(60) == 0 ? 0x81 : random.nextInt(24));
-            }
-        } else if (r == 2) {
-            int n = 8 + random.nextInt(7);
-            int b = random.nextBoolean() ? 0x81 : 0xa1;
-            for (int c = 0; c < n; c++) {
-                giveByte(b);
-            }
-            for (int c = 0; c < n; c++) {
-                giveByte(random.nextInt(24));
-            }
-        } else {
-            changeOne();
+        switch (random.nextInt(4)) {
+            case 0:
+                give(what, pieces());
+                break;
+            case 1:
+                give(what, wide());
+                break;
+            case 2:
+                give(what, deep());
+                break;
+            default:
+                changeOne(what);
         }
     }
 
-    private void giveByte(int b) {
-        Check.due("give(" + b + ", 1)", x.give(b, 1), m.give(b, 1));
+    private int[] pieces() {
+        int[] bytes = new int[1 + random.nextInt(30)];
+        for (int k = 0; k < bytes.length; k++) {
+            bytes[k] = PIECES[random.nextInt(PIECES.length)];
+        }
+        return bytes;
+    }
+
+    private int[] wide() {
+        int n = random.nextInt(3) == 0 ? 196 + random.nextInt(6) : 24 + random.nextInt(200);
+        int[] bytes = new int[n + 5];
+        bytes[0] = random.nextBoolean() ? 0x98 : 0xb8;
+        bytes[1] = n;
+        for (int k = 2; k < bytes.length; k++) {
+            bytes[k] = random.nextInt(60) == 0 ? 0x81 : random.nextInt(24);
+        }
+        return bytes;
+    }
+
+    private int[] deep() {
+        int n = 8 + random.nextInt(7);
+        int b = random.nextBoolean() ? 0x81 : 0xa1;
+        int[] bytes = new int[2 * n];
+        for (int k = 0; k < n; k++) {
+            bytes[k] = b;
+            bytes[n + k] = random.nextInt(24);
+        }
+        return bytes;
+    }
+
+    /** As few calls as may be, and only as long as there are enough left for the end. */
+    private void give(String what, int[] bytes) {
+        for (int from = 0; from < bytes.length && x.left() > AT_THE_END; from += 8) {
+            int n = Math.min(8, bytes.length - from);
+            long v = 0;
+            for (int j = from; j < from + n; j++) {
+                v = v << 8 | bytes[j];
+            }
+            Check.due(what + "give(" + v + ", " + n + ")", x.give(v, n), m.give(v, n));
+        }
     }
 
     /** The output becomes the input, but for one byte; what stands behind that comes by give. */
-    private void changeOne() {
+    private void changeOne(String what) {
         x.turn();
         m.turn();
         if (m.in.isEmpty()) {
             return;
         }
-        int n = random.nextInt(m.in.size());
-        Check.due("cut(" + n + ")", x.cut(n), m.cut(n));
-        giveByte(random.nextBoolean() ? random.nextInt(256) : PIECES[random.nextInt(PIECES.length)]);
-        for (int k = n + 1; k < m.out.size(); k++) {
-            giveByte(m.out.get(k));
+        int size = m.in.size();
+        int n = random.nextBoolean() ? random.nextInt(size) : Math.max(0, size - 1 - random.nextInt(100));
+        Check.due(what + "cut(" + n + ")", x.cut(n), m.cut(n));
+        int[] rest = m.out.subList(n, size).stream().mapToInt(b -> b).toArray();
+        rest[0] = random.nextBoolean() ? random.nextInt(256) : PIECES[random.nextInt(PIECES.length)];
+        give(what, rest);
+    }
+
+    /** Of all that can be asked of the state, as much as there are calls left, at random. */
+    private void stateAtTheEnd(String what) {
+        for (int which = 0; which < 8; which++) {
+            Check.due(what + "look(" + which + ")", x.look(which), m.look(which));
+        }
+        while (x.left() > 0) {
+            if (m.stack.isEmpty() || random.nextInt(6) == 0) {
+                int k = random.nextInt(m.out.size() + 1);
+                Check.due(what + "output(" + k + ")", x.output(k), m.output(k));
+            } else {
+                askTheStack(what);
+            }
         }
     }
 
-    private void wholeState(String what) {
-        for (int i = 0; i < m.stack.size(); i++) {
-            int n = m.node(i, 0, 3);
-            for (int k = 0; k < n; k++) {
-                for (int w = 0; w < 6; w++) {
-                    Check.due(what + "node(" + i + ", " + k + ", " + w + ")", x.node(i, k, w), m.node(i, k, w));
-                }
-                for (int j = 0; j <= m.node(i, k, 1); j++) {
-                    Check.due(what + "byteAt", x.byteAt(i, k, j), m.byteAt(i, k, j));
-                }
-                if (m.node(i, k, 0) == 0) {
-                    Check.due(what + "value(" + i + ", " + k + ")", x.value(i, k), m.value(i, k));
-                }
-            }
-        }
-        for (int k = 0; k <= m.out.size(); k++) {
-            Check.due(what + "output(" + k + ")", x.output(k), m.output(k));
+    private void askTheStack(String what) {
+        int i = random.nextInt(m.stack.size());
+        int k = random.nextInt(m.node(i, 0, 3));
+        int w = random.nextInt(7);
+        if (w < 6) {
+            Check.due(what + "node(" + i + ", " + k + ", " + w + ")", x.node(i, k, w), m.node(i, k, w));
+        } else if (m.node(i, k, 0) == 0) {
+            Check.due(what + "value(" + i + ", " + k + ")", x.value(i, k), m.value(i, k));
+        } else {
+            int j = random.nextInt(m.node(i, k, 1) + 1);
+            Check.due(what + "byteAt(" + i + ", " + k + ", " + j + ")", x.byteAt(i, k, j), m.byteAt(i, k, j));
         }
     }
 }

@@ -26,15 +26,15 @@ public final class ReadTest {
 
     /** Reads these bytes on an empty stack: the fault, its place, and that all else stays. */
     private static void fault(String what, int want, int place, int... bytes) {
-        DataTree x = new DataTree();
+        Counted x = new Counted();
         Check.feed(x, bytes);
         Check.due(what + ": read()", x.read(), want);
         Check.looks(what, x, 0, 0, 0, bytes.length, 0, want, place, -1);
     }
 
     /** Reads these bytes on an empty stack, to their end, and writes them again. */
-    private static DataTree good(String what, int... bytes) {
-        DataTree x = new DataTree();
+    private static Counted good(String what, int... bytes) {
+        Counted x = new Counted();
         Check.feed(x, bytes);
         Check.due(what + ": read()", x.read(), 0);
         Check.due(what + ": items", x.look(0), 1);
@@ -58,7 +58,7 @@ public final class ReadTest {
     }
 
     private static void give() {
-        DataTree x = new DataTree();
+        Counted x = new Counted();
         for (int n : WRONG_LENGTHS) {
             Check.no("give of " + n, x.give(1, n));
         }
@@ -78,10 +78,8 @@ public final class ReadTest {
     }
 
     private static void giveToTheEnd() {
-        DataTree x = new DataTree();
-        for (int n = 0; n < 511; n++) {
-            x.give(n, 8);
-        }
+        Counted x = new Counted();
+        States.inputOf(x, 4088);
         Check.yes("4095 bytes", x.give(0, 7));
         Check.no("4097 bytes", x.give(0, 2));
         Check.due("4095 bytes stay", x.look(3), 4095);
@@ -94,7 +92,7 @@ public final class ReadTest {
     }
 
     private static void cut() {
-        DataTree x = new DataTree();
+        Counted x = new Counted();
         Check.no("cut(1) of none", x.cut(1));
         Check.yes("cut(0) of none", x.cut(0));
         Check.give(x, 1, 2, 3);
@@ -126,7 +124,7 @@ public final class ReadTest {
     }
 
     private static void oneBehindTheOther() {
-        DataTree x = new DataTree();
+        Counted x = new Counted();
         Check.feed(x, 0x82, 1, 2, 0x41, 5, 0x18, 0x17, 3);
         Check.due("read a list", x.read(), 0);
         Check.due("AT", x.look(4), 3);
@@ -146,7 +144,7 @@ public final class ReadTest {
         good("0", 0);
         good("-1", 0x20);
         good("2^63 - 1", 0x1b, 127, 255, 255, 255, 255, 255, 255, 255);
-        DataTree x = good("-2^63", 0x3b, 127, 255, 255, 255, 255, 255, 255, 255);
+        Counted x = good("-2^63", 0x3b, 127, 255, 255, 255, 255, 255, 255, 255);
         Check.due("its value", x.value(0, 0), Long.MIN_VALUE);
         good("2^32", 0x1b, 0, 0, 0, 1, 0, 0, 0, 0);
         good("2^32 - 1", 0x1a, 255, 255, 255, 255);
@@ -250,7 +248,7 @@ public final class ReadTest {
         int[] right = {121, 127, 1280, 1281, 1400};
         for (int n : right) {
             int[] head = n < 256 ? new int[] {0xd8, n} : new int[] {0xd9, n / 256, n % 256};
-            DataTree x = good("kind 6 with " + n, with(head, 0x81, 5));
+            Counted x = good("kind 6 with " + n, with(head, 0x81, 5));
             Check.due("its number", x.node(0, 0, 2), n < 128 ? n - 121 : n - 1273);
             fault("kind 6 with " + n + " and an integer", 3, head.length, with(head, 5));
             fault("kind 6 with " + n + " and a map", 3, head.length, with(head, 0xa0));
@@ -278,7 +276,7 @@ public final class ReadTest {
     }
 
     private static void tooDeep() {
-        DataTree x = good("12 deep", with(times(11, 0x81), 5));
+        Counted x = good("12 deep", with(times(11, 0x81), 5));
         Check.due("its depth", x.node(0, 0, 4), 12);
         Check.due("the inmost one's", x.node(0, 11, 4), 1);
         good("12 lists", with(times(11, 0x81), 0x80));
@@ -304,7 +302,7 @@ public final class ReadTest {
     }
 
     private static void tooManyNodes() {
-        DataTree x = good("200 nodes", with(new int[] {0x98, 199}, times(199, 3)));
+        Counted x = good("200 nodes", with(new int[] {0x98, 199}, times(199, 3)));
         Check.due("200 nodes", x.node(0, 0, 3), 200);
         fault("201 nodes", 5, 201, with(new int[] {0x98, 200}, times(200, 3)));
         fault("a list of 200, 199 there", 1, 201, with(new int[] {0x98, 200}, times(199, 3)));
@@ -346,7 +344,7 @@ public final class ReadTest {
     }
 
     private static void placesFromLaterReadings() {
-        DataTree x = new DataTree();
+        Counted x = new Counted();
         Check.feed(x, 1, 2, 0x81, 0x58, 65);
         x.read();
         x.read();
@@ -362,7 +360,7 @@ public final class ReadTest {
     }
 
     private static void noneWithoutRoom() {
-        DataTree x = new DataTree();
+        Counted x = new Counted();
         Check.feed(x, 0x18);
         Check.due("a fault", x.read(), 1);
         x.cut(0);
@@ -382,7 +380,7 @@ public final class ReadTest {
     }
 
     private static void noneAboveThousand() {
-        DataTree x = new DataTree();
+        Counted x = new Counted();
         Check.listOf(x, 200);
         x.copy(0);
         x.copy(0);
@@ -413,7 +411,7 @@ public final class ReadTest {
     }
 
     private static void faultChangesNothing() {
-        DataTree x = new DataTree();
+        Counted x = new Counted();
         x.bytes(0x0102, 2);
         x.integer(9);
         x.list(2);

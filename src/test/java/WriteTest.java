@@ -13,7 +13,7 @@ public final class WriteTest {
     }
 
     private static void integers() {
-        DataTree x = new DataTree();
+        Counted x = new Counted();
         integer(x, 0, 0x00);
         integer(x, 23, 0x17);
         integer(x, 24, 0x18, 24);
@@ -36,14 +36,14 @@ public final class WriteTest {
         integer(x, Long.MIN_VALUE, 0x3b, 127, 255, 255, 255, 255, 255, 255, 255);
     }
 
-    private static void integer(DataTree x, long v, int... want) {
+    private static void integer(Counted x, long v, int... want) {
         x.integer(v);
         Check.writtenIs("integer " + v, x, want);
         x.drop();
     }
 
     private static void bytesHeads() {
-        DataTree x = new DataTree();
+        Counted x = new Counted();
         x.bytes(0, 0);
         Check.writtenIs("no bytes", x, 0x40);
         x.more(-1, 8);
@@ -65,7 +65,7 @@ public final class WriteTest {
     }
 
     private static void counts() {
-        DataTree x = new DataTree();
+        Counted x = new Counted();
         Check.listOf(x, 24);
         Check.due("a list of 23", x.look(7), 24);
         Check.listOf(x, 25);
@@ -88,8 +88,8 @@ public final class WriteTest {
     }
 
     private static void constructorNumbers() {
-        DataTree x = new DataTree();
         for (int number = 0; number <= 127; number++) {
+            Counted x = new Counted();
             x.constructor(number, 0);
             if (number < 7) {
                 Check.writtenIs("constructor " + number, x, 0xd8, 121 + number, 0x80);
@@ -97,8 +97,8 @@ public final class WriteTest {
                 int n = 1273 + number;
                 Check.writtenIs("constructor " + number, x, 0xd9, n / 256, n % 256, 0x80);
             }
-            x.drop();
         }
+        Counted x = new Counted();
         Check.feed(x, 0xd8, 0x79, 0x98, 24);
         x.give(0, 8);
         x.give(0, 8);
@@ -108,7 +108,7 @@ public final class WriteTest {
     }
 
     private static void behindOneAnother() {
-        DataTree x = new DataTree();
+        Counted x = new Counted();
         Check.due("write without a top", x.write(), -1);
         x.integer(1);
         Check.due("write", x.write(), 1);
@@ -129,7 +129,7 @@ public final class WriteTest {
     }
 
     private static void noRoom() {
-        DataTree x = new DataTree();
+        Counted x = new Counted();
         x.bytes(-1, 8);
         for (int n = 1; n < 8; n++) {
             x.more(-1, 8);
@@ -158,7 +158,7 @@ public final class WriteTest {
 
     /** Data may have more bytes than the output can have. */
     private static void dataAboveTheOutput() {
-        DataTree x = new DataTree();
+        Counted x = new Counted();
         x.bytes(5, 8);
         for (int n = 1; n < 8; n++) {
             x.more(n, 8);
@@ -183,7 +183,7 @@ public final class WriteTest {
     }
 
     private static void turn() {
-        DataTree x = new DataTree();
+        Counted x = new Counted();
         x.give(0x0102, 2);
         Check.due("read 1", x.read(), 0);
         Check.looks("one read", x, 1, 1, 0, 2, 1, 0, -1, 1);
@@ -203,7 +203,7 @@ public final class WriteTest {
     }
 
     private static void output() {
-        DataTree x = new DataTree();
+        Counted x = new Counted();
         x.bytes(0xff8000, 3);
         x.write();
         Check.due("output(-1)", x.output(-1), -1);
