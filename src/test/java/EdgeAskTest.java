@@ -92,7 +92,7 @@ public final class EdgeAskTest {
         Check.due("w = 5", x.node(0, 4, 5), 0);
         Check.due("w = 6", x.node(0, 4, 6), -1);
         for (int w : States.FAR_OFF) {
-            Check.due("w = " + w, x.node(0, 4, w), -1);
+            Still.none("w = " + w, EdgeAskTest::three, y -> y.node(0, 4, w));
         }
         for (int w : new int[] {-1, 6, 99}) {
             Still.thrown("item 3, w = " + w, EdgeAskTest::three, Check.INDEX, y -> y.node(3, 0, w));
@@ -230,9 +230,9 @@ public final class EdgeAskTest {
         Still.none("node 5 of 5", EdgeAskTest::three, y -> y.byteAt(0, 5, 0));
         Still.none("byte of none", States::rows, y -> y.byteAt(0, 0, 0));
         for (int n : States.FAR_OFF) {
-            Check.due("item " + n, x.byteAt(n, 0, 0), -1);
-            Check.due("node " + n, x.byteAt(1, n, 0), -1);
-            Check.due("byte " + n, x.byteAt(1, 0, n), -1);
+            Still.none("item " + n, EdgeAskTest::three, y -> y.byteAt(n, 0, 0));
+            Still.none("node " + n, EdgeAskTest::three, y -> y.byteAt(1, n, 0));
+            Still.none("byte " + n, EdgeAskTest::three, y -> y.byteAt(1, 0, n));
         }
     }
 
@@ -264,6 +264,8 @@ public final class EdgeAskTest {
         Still.none("byte of a list", EdgeAskTest::three, y -> y.byteAt(0, 1, 0));
         Still.none("byte of an integer", EdgeAskTest::three, y -> y.byteAt(0, 2, 0));
         Still.none("byte of a constructor", EdgeAskTest::three, y -> y.byteAt(2, 0, 0));
+        Still.none("byte 64 of 64", EdgeAskTest::three, y -> y.byteAt(1, 0, 64));
+        Still.none("byte -1 of 64", EdgeAskTest::three, y -> y.byteAt(1, 0, -1));
     }
 
     /** compare: "IndexOutOfBoundsException if there is no such item": a, b, or both. */
@@ -436,7 +438,7 @@ public final class EdgeAskTest {
         Check.due("look(-1)", x.look(-1), -1);
         Check.due("look(8)", x.look(8), -1);
         for (int which : States.FAR_OFF) {
-            Check.due("look(" + which + ")", x.look(which), -1);
+            Still.none("look(" + which + ")", EdgeAskTest::three, y -> y.look(which));
         }
         Still.none("look(8)", EdgeAskTest::three, y -> y.look(8));
         Still.none("look(-1)", EdgeAskTest::three, y -> y.look(-1));

@@ -447,7 +447,7 @@ public final class EdgeRowsTest {
         Check.due("output(3)", x.output(3), -1);
         Check.due("output(4)", x.output(4), -1);
         for (int k : States.FAR_OFF) {
-            Check.due("output(" + k + ")", x.output(k), -1);
+            Still.none("output(" + k + ")", States::two, y -> y.output(k));
         }
         x.clear();
         Check.due("output(0) of none", x.output(0), -1);

@@ -2,9 +2,11 @@ import java.util.ArrayList;
 import java.util.List;
 
 /**
- * Whether a call that is refused changes nothing. All that can be asked is asked of objects that
- * came to a state, and of objects that came to it and were then called in vain. Each object answers
- * no more than 512 calls, so there are as many of them as it takes.
+ * Whether a call that is refused changes nothing. The same is asked of objects that came to a state,
+ * and of objects that came to it and were then called in vain: every look, every byte of the output,
+ * every node of every item with its value and bytes, and what each call does next. The input can only
+ * be seen by reading: as far as it has no fault, and of a long one as far as the calls of one object
+ * go. Each object answers no more than 512 calls, so there are as many of them as it takes.
  */
 final class Still {
     interface Steps {
@@ -128,7 +130,8 @@ final class Still {
         return all;
     }
 
-    private static void addItem(List<Question> all, int i, int nodes) {
+    private void addItem(List<Question> all, int i, int nodes) {
+        Counted shape = made(false);
         for (int node = 0; node < nodes; node++) {
             int k = node;
             String name = "(" + i + ", " + k + ")";
@@ -137,7 +140,9 @@ final class Still {
                 all.add(new Question("node" + name + " " + w, false, x -> x.node(i, k, w)));
             }
             all.add(new Question("value" + name, false, x -> x.value(i, k)));
-            for (int byteOf : new int[] {0, 1, 2, 62, 63}) {
+            shape = shape.left() < 2 ? made(false) : shape;
+            int bytes = shape.node(i, k, 0) == 2 ? shape.node(i, k, 1) : 0;
+            for (int byteOf = 0; byteOf <= bytes; byteOf++) {
                 int j = byteOf;
                 all.add(new Question("byteAt" + name + " " + j, false, x -> x.byteAt(i, k, j)));
             }
