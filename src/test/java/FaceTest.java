@@ -2,7 +2,9 @@ import java.lang.reflect.Constructor;
 import java.lang.reflect.Field;
 import java.lang.reflect.Method;
 import java.lang.reflect.Modifier;
+import java.util.ArrayList;
 import java.util.Arrays;
+import java.util.List;
 import java.util.Set;
 import java.util.TreeSet;
 
@@ -13,11 +15,13 @@ public final class FaceTest {
         "boolean list(int)", "boolean map(int)", "boolean constructor(int,int)",
         "boolean copy(int)", "boolean drop()", "int open()", "int write()", "void clear()",
         "boolean give(long,int)", "boolean cut(int)", "void turn()", "int read()",
-        "int node(int,int,int)", "long value(int,int)", "int byteAt(int,int,int)",
-        "int compare(int,int)", "int output(int)", "int look(int)",
+        "int node(int,int,int) throws IndexOutOfBoundsException",
+        "long value(int,int) throws IndexOutOfBoundsException,IllegalArgumentException",
+        "int byteAt(int,int,int)", "int compare(int,int) throws IndexOutOfBoundsException",
+        "int output(int)", "int look(int)",
     };
 
-    public static void main(String[] args) {
+    public static void main(String[] args) throws NoSuchFieldException {
         Check.due("NONE", DataTree.NONE, -1);
         Check.yes("public and final", DataTree.class.getModifiers() == (Modifier.PUBLIC | Modifier.FINAL));
         methods();
@@ -37,15 +41,27 @@ public final class FaceTest {
             }
             publicNames.add(m.getName());
             Check.yes(m + " is public", m.getModifiers() == Modifier.PUBLIC);
-            String parameters = Arrays.toString(m.getParameterTypes()).replaceAll("[\\[\\] ]", "");
-            seen.add(m.getReturnType() + " " + m.getName() + "(" + parameters + ")");
+            String thrown = m.getExceptionTypes().length == 0 ? "" : " throws " + names(m.getExceptionTypes());
+            seen.add(m.getReturnType() + " " + m.getName() + "(" + names(m.getParameterTypes()) + ")" + thrown);
         }
         Check.yes("methods " + seen, seen.equals(new TreeSet<>(Arrays.asList(FACE))));
         privateNames.retainAll(publicNames);
         Check.yes("private methods with public names " + privateNames, privateNames.isEmpty());
     }
 
-    private static void fieldsAndConstructors() {
+    private static String names(Class<?>[] types) {
+        List<String> names = new ArrayList<>();
+        for (Class<?> type : types) {
+            names.add(type.getSimpleName());
+        }
+        return String.join(",", names);
+    }
+
+    private static void fieldsAndConstructors() throws NoSuchFieldException {
+        Field none = DataTree.class.getDeclaredField("NONE");
+        Check.yes("NONE is an int", none.getType() == int.class);
+        int constant = Modifier.PUBLIC | Modifier.STATIC | Modifier.FINAL;
+        Check.due("NONE is public, static and final", none.getModifiers(), constant);
         for (Field f : DataTree.class.getDeclaredFields()) {
             boolean hidden = Modifier.isPrivate(f.getModifiers());
             Check.yes(f + " is private", hidden || f.getName().equals("NONE"));
@@ -55,6 +71,7 @@ public final class FaceTest {
         Constructor<?>[] all = DataTree.class.getDeclaredConstructors();
         Check.due("constructors", all.length, 1);
         Check.due("its parameters", all[0].getParameterCount(), 0);
+        Check.due("its exceptions", all[0].getExceptionTypes().length, 0);
         Check.yes("it is public", Modifier.isPublic(all[0].getModifiers()));
     }
 
